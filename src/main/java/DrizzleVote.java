@@ -1689,9 +1689,8 @@ public final class DrizzleVote {
                 return readSky();
             }
             if (words.takeWord("now")) {
-                int sky = takeSky();
-                draft.weather.sky = sky == NONE ? draft.weather.sky : sky;
-                return sky != NONE;
+                draft.weather.sky = takeSky();
+                return draft.weather.sky != NONE;
             }
             if (words.takeWord("place")) {
                 return readPlace();
@@ -1716,9 +1715,8 @@ public final class DrizzleVote {
                 return draft.wetSeats != NONE;
             }
             if (words.takeWord("hour")) {
-                int hour = words.takeNumber(0, HOURS - 1);
-                draft.weather.hour = hour == NONE ? draft.weather.hour : hour;
-                return hour != NONE;
+                draft.weather.hour = words.takeNumber(0, HOURS - 1);
+                return draft.weather.hour != NONE;
             }
             if (words.takeWord("day")) {
                 draft.weather.day = words.takeNumber(0, 999);
@@ -1828,9 +1826,8 @@ public final class DrizzleVote {
             if (place == NONE || !words.needWord("exposed")) {
                 return false;
             }
-            int exposure = words.takeNumber(0, 9);
-            draft.exposures[place] = exposure;
-            return exposure != NONE;
+            draft.exposures[place] = words.takeNumber(0, 9);
+            return draft.exposures[place] != NONE;
         }
 
         private boolean readPaper() {
@@ -2226,7 +2223,6 @@ public final class DrizzleVote {
         }
 
         void planPosts(Council council) {
-            Arrays.fill(most, 0, SETS, 0);
             for (int used = SETS - 1; used >= 0; used--) {
                 int member = Integer.bitCount(used);
                 int top = 0;

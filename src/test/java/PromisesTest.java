@@ -217,7 +217,48 @@ public final class PromisesTest {
         coastFaults();
     }
 
+    private static void coastEdges() {
+        DrizzleVote x = council("hour 5;day 5;place 0 exposed 0;aye 1;wet 20;quorum 0;member at 0 seats 0");
+        due(x.exposed(0), 0);
+        due(x.count(8), 1);
+        due(x.count(9), 20);
+        due(x.count(7), 0);
+        due(x.member(0, 1), 0);
+        coast(x, "hour 0;day 0;paper 11 0".replace(";paper 11 0", ""));
+        due(x.count(5), 0);
+        due(x.count(6), 0);
+        coast(x, "motion of 0 takes 9 worth 99;motion of 0 takes 1 worth 0;paper 11 0;paper 11 1;place 0 exposed 9");
+        due(x.motion(0, 5), -1);
+        due(x.motion(1, 5), 11);
+        due(x.motion(0, 2), 99);
+        due(x.exposed(0), 9);
+        for (int sky = 0; sky < 5; sky++) {
+            coast(x, "now " + new String[] {"sun", "dry", "drizzle", "fog", "downpour"}[sky]);
+            due(x.count(4), sky);
+        }
+        // a line that breaks off is wrong where it does
+        String[] broken = {"member", "member at", "member at 1 seats", "motion", "motion of", "motion of 0",
+            "motion of 0 takes", "motion of 0 takes 1", "motion of 0 takes 1 worth", "motion of 0 takes 1 worth 1 for",
+            "sky", "sky fog", "now", "place", "place 1", "place 1 exposed", "quorum", "aye", "wet", "paper",
+            "paper 1", "hour", "day"};
+        for (String one : broken) {
+            fault(x, true, one + ";day 1", one.length());
+            fault(x, true, one + " ", one.length() + 1);
+            fault(x, true, "say 1;" + one, 0);
+        }
+        due(x.count(6), 0);
+    }
+
     private static void coastFaults() {
+        coastEdges();
+        coastFault("member at 1 seats 21", 18);
+        coastFault("sky sun 0000:", 8);
+        coastFault("motion of 0 takes 1 worth 1", 10);
+        coastFault("member at 1;motion of 1 takes 1 worth 1", 22);
+        coastFault("member at 1;motion of 0 takes 0 worth 1", 30);
+        coastFault("member at 1;motion of 0 takes 1 worth 1;paper 0 1", 48);
+        coastFault("\u00ff", 0);
+        coastFault("day 1\u0000", 5);
         coastFault(";", 0);
         coastFault("now fog;", 8);
         coastFault("now fog;;", 8);
@@ -287,6 +328,11 @@ public final class PromisesTest {
         due(x.felt(0, 0, -1), 20);
         due(law(x, "feel 20;dull 20;dull 20"), 3);
         due(x.felt(0, 2, -1), 0);
+        due(law(x, "feel 0;feel 4 if wet"), 2);
+        due(x.felt(0, 1, -1), 0);
+        due(x.felt(0, 2, -1), 9);
+        due(x.felt(0, 3, -1), 4);
+        due(x.felt(0, 4, -1), 4);
         lawConditions();
         lawFaults();
     }
@@ -325,6 +371,21 @@ public final class PromisesTest {
     }
 
     private static void lawFaults() {
+        lawFault("feel;lapse", 4);
+        lawFault("lapse if;lapse", 8);
+        lawFault("lapse if not;lapse", 12);
+        lawFault("lapse if (;lapse", 10);
+        lawFault("lapse if (hat;lapse", 13);
+        lawFault("lapse if 1;lapse", 10);
+        lawFault("lapse if 1<;lapse", 11);
+        lawFault("lapse if 1+;lapse", 11);
+        lawFault("lapse if 1<2+;lapse", 13);
+        lawFault("lapse if hat or;lapse", 15);
+        lawFault("lapse if 1<2<3", 12);
+        lawFault("", -1);
+        lawFault("  ", -1);
+        lawFault(";", 0);
+        lawFault(" lapse ;", 8);
         lawFault("feel", 4);
         lawFault("feel 21", 5);
         lawFault("dull 0020", 5);
@@ -461,6 +522,12 @@ public final class PromisesTest {
         due(x.goes(0, 2, 0), 1);
         due(x.goes(1, 1, 0), 2);
         due(x.goes(1, 2, 0), 2);
+        // the mover feels AYE, or one more than that is needed
+        coast(x, "aye 4");
+        due(x.goes(0, 2, 0), 1);
+        coast(x, "aye 5");
+        due(x.goes(0, 2, 0), 2);
+        coast(x, "aye 3");
         // as many on both sides: as the mover feels
         x.seat(1, 3);
         due(x.goes(0, 1, 0), 2);
@@ -631,11 +698,31 @@ public final class PromisesTest {
         dueThrow(ARGUMENT, () -> z.carries(0, 25));
         dueThrow(INDEX, () -> z.carries(1, 0));
 
+        // by a chance of a single one of 10000: it goes by downpour alone
+        DrizzleVote s = council("sky dry 09001;sky downpour 09001;member at 0;motion of 0 takes 1 worth 1", "lapse if sky<4");
+        due(s.carries(0, 2), s.chance(4, 2));
+
         promise = 25;
         DrizzleVote w = council(ROUND + "member at 0;motion of 0 takes 1 worth 1", "lapse if sky<4 and hour<4");
         due(w.soonest(0, 1), 5);
         due(w.soonest(0, 10000), 5);
         due(w.soonest(0, 0), 1);
+        coast(w, "hour 5;now downpour");
+        law(w, "lapse if hour<4 or hour>4");
+        due(w.soonest(0, 1), 12);
+        coast(w, "hour 5;now dry");
+        law(w, "lapse if hour<4 or hour>4 or sky<1 or sky>1");
+        due(w.soonest(0, 1), 12);
+        // skies of five hours: in hour 7 it is drizzle behind 12 hours, downpour behind 24
+        coast(w, "hour 8;now sun;sky sun 01000;sky dry 00100;sky drizzle 00010;sky fog 00001;sky downpour 10000");
+        law(w, "lapse if hour<7 or hour>7 or sky<2");
+        due(w.soonest(0, 1), 12);
+        due(w.when(0), 12);
+        law(w, "lapse if hour<7 or hour>7 or sky<4");
+        due(w.soonest(0, 1), 24);
+        due(w.when(0), 24);
+        coast(w, "hour 0;now dry;sky dry 00100;sky drizzle 00010;sky fog 10000;sky sun 01000;sky downpour 00001");
+        law(w, "lapse if sky<4 and hour<4");
         due(z.soonest(0, 8001), -1);
         due(z.soonest(0, 8000), 1);
         dueThrow(ARGUMENT, () -> z.soonest(0, 10001));
@@ -694,6 +781,12 @@ public final class PromisesTest {
         due(w.best(-1), 10);
         due(w.best(10), 0);
         due(w.best(11), 1);
+        // the hours go by the law
+        law(w, "lapse if hour<11");
+        due(w.best(-1), 10);
+        due(w.best(10), -1);
+        due(w.best(11), 1);
+        law(w, "lapse if sky<1");
         // two motions for one hour
         coast(w, "hour 11");
         due(w.best(-1), 8);
@@ -753,6 +846,10 @@ public final class PromisesTest {
         DrizzleVote y = council("member at 1");
         rows(y, 5, 0, 1);
         due(y.cuffs(true), 9999);
+        rows(x, 10, 0, 1);
+        due(x.cuffs(true), 1);
+        rows(y, 11, 0, 1, 10, 0, 1, 9, 0, 1, 8, 0, 1, 7, 0, 1, 6, 0, 1, 5, 0, 1, 4, 0, 0);
+        due(y.cuffs(true), 4 * 625);
         rows(y, 0, 0, 1, 1, 0, 1, 2, 0, 1, 3, 0, 1, 4, 0, 1, 5, 0, 1, 6, 0, 1, 7, 0, 0, 8, 0, 0);
         due(y.cuffs(true), 16 * 125);
         // in the sixth hour with a feel line: by every sky
@@ -841,6 +938,9 @@ public final class PromisesTest {
         dueThrow(INDEX, () -> x.posts(3));
         dueThrow(INDEX, () -> x.posts(-2));
         due(new DrizzleVote().posts(-1), 0);
+        DrizzleVote first = council("member at 1 seats 2;place 0 exposed 6");
+        due(first.posts(-1), 12);
+        due(first.posts(0), 0);
 
         promise = 37;
         DrizzleVote y = council(THREE);
@@ -885,6 +985,12 @@ public final class PromisesTest {
         z.seat(0, 9);
         due(z.minimal(), 1);
         due(w.minimal(), 0);
+        // half is not more than half
+        DrizzleVote half = council("wet 2;member at 1 seats 2");
+        due(half.wins(1), false);
+        due(half.wins(129), true);
+        due(half.swings(0), 1);
+        due(half.minimal(), 1);
         // one of no seats is in no minimal side
         DrizzleVote v = council("wet 2;member at 1 seats 0;member at 1 seats 1");
         due(v.minimal(), 1);
@@ -936,6 +1042,10 @@ public final class PromisesTest {
         due(z.bargain(0, 1), -1);
         due(z.bargain(0, 2), -1);
         due(council("member at 0;member at 0").bargain(0, 1), -1);
+        // the first one waits, and goes already; the second one would not go
+        due(council("member at 0;member at 0;member at 0 seats 9;motion of 0 takes 1 worth 1;motion of 1 takes 1 worth 1;aye 6").bargain(0, 1), -1);
+        due(council("member at 0;member at 0;motion of 0 takes 1 worth 1;motion of 1 takes 1 worth 1;aye 6;wet 1").bargain(0, 1), 1);
+        due(council("member at 0;member at 0;motion of 1 takes 1 worth 1;motion of 0 takes 1 worth 1;aye 6;wet 1").bargain(0, 1), 8);
         // one that does not wait is no part of a bargain
         DrizzleVote w = council(THREE);
         w.table(1, 0);
@@ -951,6 +1061,8 @@ public final class PromisesTest {
         dueThrow(ARGUMENT, () -> z.like(1, 1));
         dueThrow(INDEX, () -> z.like(3, 3));
         dueThrow(INDEX, () -> z.like(0, -1));
+        dueThrow(INDEX, () -> z.like(-1, 0));
+        dueThrow(INDEX, () -> z.like(3, 0));
 
         promise = 45;
         due(z.foes(), 2);
@@ -958,6 +1070,7 @@ public final class PromisesTest {
         due(z.foes(), 1);
         due(council("member at 0").foes(), -1);
         due(council("member at 0;member at 0").foes(), 1);
+        due(council("member at 0;member at 0;member at 0;motion of 0 takes 1 worth 1 for 110;motion of 0 takes 1 worth 1 for 010").foes(), 10);
 
         promise = 46;
         DrizzleVote v = new DrizzleVote();
@@ -999,6 +1112,9 @@ public final class PromisesTest {
         due(council("sky dry 01000").enough(), -1);
         due(council("now drizzle").enough(), 0);
         due(council("sky dry 01100").enough(), 2);
+        // 94 hundredths, twelve times, go below 5000 in the twelfth hour for the first time
+        DrizzleVote late = council("sky dry 00010;sky fog 09100;sky sun 10000;sky downpour 10000");
+        due(late.enough(), firstBelow(late));
 
         promise = 50;
         DrizzleVote y = council(THREE + ";paper 1 1");
@@ -1014,6 +1130,8 @@ public final class PromisesTest {
         y.hours(2);
         due(y.rests(0), -1);
         due(y.rests(1), -1);
+        // of worth 1: waiting is worse for the mover
+        due(council("member at 0;motion of 0 takes 1 worth 1").rests(0), 3);
         // of no worth: nobody has more by another choice
         DrizzleVote z = council("member at 0;motion of 0 takes 1 worth 0");
         due(z.rests(0), 7);
@@ -1121,6 +1239,15 @@ public final class PromisesTest {
         latestSixty();
     }
 
+    private static int firstBelow(DrizzleVote x) {
+        for (int n = 0; n <= 12; n++) {
+            if (x.dry(n) < 5000) {
+                return n;
+            }
+        }
+        return -1;
+    }
+
     private static void latestSixty() {
         DrizzleVote x = council("member at 0;motion of 0 takes 1 worth 9 for 0;motion of 0 takes 1 worth 1;paper 0 0;paper 1 1;quorum 8");
         x.hours(12);
@@ -1139,6 +1266,10 @@ public final class PromisesTest {
         due(x.log(60, 2), -1);
         due(x.log(0, 0), 59);
         due(x.led(0, false), 59);
+        x.undo();
+        due(x.log(0, 0), 58);
+        due(x.log(59, 0), 0);
+        due(x.log(58, 2), 1);
     }
 
     private static void part59() {
@@ -1235,6 +1366,19 @@ public final class PromisesTest {
         due(y.count(6), 8);
         due(y.back(), true);
         due(y.count(6), 0);
+
+        // rows of the log that came behind the image are gone, and those of the image are there
+        DrizzleVote w = council(THREE + "|paper 0 1");
+        w.hours(1);
+        w.image();
+        w.undo();
+        w.table(0, 0);
+        w.hours(1);
+        due(w.log(0, 2), 0);
+        w.back();
+        due(w.log(0, 2), 1);
+        due(w.log(0, 4), 2);
+        due(w.paper(0), 1);
 
         promise = 63;
         DrizzleVote z = council(THREE + ";paper 1 1", "feel 1 if hat;lapse if sky<1");
