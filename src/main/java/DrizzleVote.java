@@ -720,7 +720,8 @@ public final class DrizzleVote {
 
     public int span(int n, boolean most) throws IllegalArgumentException {
         needNumber(n, 0, 60);
-        int least = Integer.MAX_VALUE;
+        // above what all motions can be worth together
+        int least = 100 * MOTIONS;
         int greatest = 0;
         for (int start = 1; start <= 6; start++) {
             tryHours(n, start);

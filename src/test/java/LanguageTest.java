@@ -13,7 +13,8 @@ public final class LanguageTest {
     private static final String[] FORBIDDEN = {
         "\\bsynchronized\\b", "\\bassert\\b", "\\bfinally\\b", "->", "::", "\\btry\\b", "\\bcatch\\b",
         "\\bstatic\\s*\\{", "\\bprotected\\b", "\\bequals\\s*\\(", "\\bhashCode\\b", "\\btoString\\b",
-        "\"\\s*\\+", "\\+\\s*\"", "[^\\x00-\\x7f]", "\\bMath\\.\\w+Exact\\b", "\\bvar\\b", "\\bfloat\\b", "\\bdouble\\b"};
+        "\"\\s*\\+", "\\+\\s*\"", "[^\\x00-\\x7f]", "\\bMath\\.\\w+Exact\\b", "\\bvar\\b", "\\bfloat\\b", "\\bdouble\\b",
+        "\\b[A-Z]\\w*\\.M(AX|IN)_VALUE\\b"};
 
     public static void main(String[] args) throws IOException {
         String source = Files.readString(Path.of("src/main/java/DrizzleVote.java"));
@@ -74,18 +75,17 @@ public final class LanguageTest {
     }
 
     private static void lengths(String source, List<String> faults) {
-        String[] lines = source.split("\n");
-        int begin = -1;
-        for (int i = 0; i < lines.length; i++) {
-            if (lines[i].matches("^ {4,8}\\w[^=;]*\\(.*\\{$") && !lines[i].trim().matches("(if|for|while|switch).*")) {
-                begin = i;
+        Matcher m = Pattern.compile("(?m)^( {4}| {8})\\w[^=;\n]*\\(.*\\{\n((?:.*\n)*?)\\1\\}$").matcher(source);
+        int methods = 0;
+        while (m.find()) {
+            methods++;
+            long lines = m.group(2).chars().filter(c -> c == '\n').count();
+            if (lines > 60) {
+                faults.add("a method of " + lines + " lines: " + m.group().substring(0, 60).trim());
             }
-            if (begin >= 0 && lines[i].matches("^ {4,8}}$")) {
-                if (i - begin > 60) {
-                    faults.add("line " + (begin + 1) + " begins a method of " + (i - begin) + " lines");
-                }
-                begin = -1;
-            }
+        }
+        if (methods < 150) {
+            faults.add("only " + methods + " methods were found");
         }
     }
 }
