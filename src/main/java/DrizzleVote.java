@@ -2010,7 +2010,7 @@ public final class DrizzleVote {
 
     /** What wet and dry cuffs tell of the twelve skies till now. */
     private static final class Cuffs {
-        private static final int ROWS = 45;
+        private static final int BYTES = 45;
 
         final int[] allowed;
         final int[] ways;
@@ -2024,7 +2024,7 @@ public final class DrizzleVote {
 
         boolean readRows(int[] tape, int size, Council council) {
             Arrays.fill(allowed, (1 << SKIES) - 1);
-            if (size < 0 || size > tape.length || size % 3 != 0 || size / 3 > ROWS) {
+            if (size < 0 || size > BYTES || size > tape.length || size % 3 != 0) {
                 return false;
             }
             for (int at = 0; at + 2 < size; at += 3) {

@@ -932,7 +932,7 @@ public final class Oracle {
     private List<int[]> rows() {
         byte[] b = useTape();
         List<int[]> rows = new ArrayList<>();
-        number(b.length % 3 == 0 && b.length <= 3 * 45);
+        number(b.length % 3 == 0 && b.length <= 45);
         for (int i = 0; i < b.length; i += 3) {
             number(b[i] >= 0 && b[i] <= 11 && b[i + 1] >= 0 && b[i + 1] < now.members.size());
             number(b[i + 2] == 0 || b[i + 2] == 1);

@@ -856,11 +856,7 @@ public final class PromisesTest {
         DrizzleVote z = council("member at 1;hour 6", "feel 1 if hour>5 and not mover and motion>7");
         rows(z, 4, 0, 0);
         due(z.cuffs(true), 0);
-        int[] many = new int[135];
-        rows(y, many);
-        due(y.cuffs(false), 27);
-        rows(y, new int[138]);
-        dueThrow(ARGUMENT, () -> y.cuffs(false));
+        mostRows();
 
         promise = 32;
         due(x.likely(), 0);
@@ -904,6 +900,34 @@ public final class PromisesTest {
         due(v.ask(), 0);
         rows(v, 0, 1, 0);
         due(v.ask(), 0);
+    }
+
+    /** Of the tape 45 bytes are right, more are not, for each call that reads cuffs. */
+    private static void mostRows() {
+        // fourteen rows of a dry cuff now, and the fifteenth of a wet one eleven hours ago
+        int[] most = new int[45];
+        most[42] = 11;
+        most[44] = 1;
+        due(told(most).cuffs(false), 27);
+        due(told(most).cuffs(true), 9999);
+        due(told(most).likely(), 0);
+        due(told(most).ago(11), 1);
+        due(told(most).ask(), 0);
+        for (int size : new int[] {46, 47, 48, 51, 60, 135, 138, 399, 400}) {
+            DrizzleVote x = told(new int[size]);
+            dueThrow(ARGUMENT, () -> x.cuffs(false));
+            due(x.end(1), false);
+            dueThrow(ARGUMENT, () -> told(new int[size]).cuffs(true));
+            dueThrow(ARGUMENT, () -> told(new int[size]).likely());
+            dueThrow(ARGUMENT, () -> told(new int[size]).ago(0));
+            dueThrow(ARGUMENT, () -> told(new int[size]).ask());
+        }
+    }
+
+    private static DrizzleVote told(int[] cuffs) {
+        DrizzleVote x = council("member at 1");
+        rows(x, cuffs);
+        return x;
     }
 
     private static void wrongRows(DrizzleVote x) {

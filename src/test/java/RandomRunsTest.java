@@ -238,7 +238,7 @@ public final class RandomRunsTest {
     }
 
     private void cuffs() {
-        int n = pick(maybe(90) ? 5 : 48);
+        int n = pick(maybe(90) ? 5 : 18);
         byte[] b = new byte[3 * n];
         int m = Math.max(1, intOf("count", 0));
         for (int i = 0; i < n; i++) {
