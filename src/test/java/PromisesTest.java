@@ -1,103 +1,22 @@
-import java.util.NoSuchElementException;
-import java.util.Objects;
-
 /** Each promise of the document by itself: ordinary inputs, the edges that it names, and wrong inputs. */
-public final class PromisesTest {
-    private static final Class<?> INDEX = IndexOutOfBoundsException.class;
-    private static final Class<?> ARGUMENT = IllegalArgumentException.class;
-    private static final Class<?> STATE = IllegalStateException.class;
-    private static final Class<?> NO_SUCH = NoSuchElementException.class;
-    private static final Class<?> FULL = UnsupportedOperationException.class;
-
-    /** Skies that go round: dry, drizzle, fog, sun; a downpour never ends. */
-    private static final String ROUND =
-        "sky dry 00100;sky drizzle 00010;sky fog 10000;sky sun 01000;sky downpour 00001;";
-    private static final String THREE = ROUND + "member at 1 seats 3;member at 2 seats 2 hat;member at 5 in;"
+public final class PromisesTest extends Kit {
+    private static final String THREE = ROUND + ";member at 1 seats 3;member at 2 seats 2 hat;member at 5 in;"
         + "motion of 0 takes 2 worth 10;motion of 1 takes 3 worth 12 for 011;motion of 0 takes 1 worth 4 for 110;"
         + "place 1 exposed 4;paper 0 0";
 
-    private static int wrong;
     private static int promise;
 
-    private interface Call {
+    private interface Asked {
         Object run();
     }
 
-    private static void due(Object got, Object want) {
-        if (!Objects.equals(got, want)) {
-            wrong++;
-            StackTraceElement at = new Throwable().getStackTrace()[1];
-            System.out.println("promise " + promise + ", line " + at.getLineNumber() + ": answered " + got
-                + ", due is " + want);
-        }
+    private static void promise(int n) {
+        promise = n;
+        sentence("promise " + n);
     }
 
-    private static void dueThrow(Class<?> want, Call call) {
-        Class<?> got = null;
-        try {
-            call.run();
-        } catch (RuntimeException e) {
-            got = e.getClass();
-        }
-        if (got != want) {
-            wrong++;
-            StackTraceElement at = new Throwable().getStackTrace()[1];
-            System.out.println("promise " + promise + ", line " + at.getLineNumber() + ": threw " + got
-                + ", due is " + want);
-        }
-    }
-
-    private static void tape(DrizzleVote x, String text) {
-        byte[] bytes = new byte[text.length()];
-        for (int i = 0; i < bytes.length; i++) {
-            bytes[i] = (byte) text.charAt(i);
-        }
-        bytes(x, bytes);
-    }
-
-    private static void bytes(DrizzleVote x, byte[] bytes) {
-        for (int at = 0; at < bytes.length; at += 20) {
-            int[] n = new int[5];
-            for (int k = 0; k < 20; k++) {
-                int one = at + k < bytes.length ? bytes[at + k] & 255 : 0;
-                n[k / 4] = n[k / 4] << 8 | one;
-            }
-            x.feed(n[0], n[1], n[2], n[3], n[4]);
-        }
-        x.end(bytes.length);
-    }
-
-    private static void rows(DrizzleVote x, int... told) {
-        byte[] bytes = new byte[told.length];
-        for (int i = 0; i < told.length; i++) {
-            bytes[i] = (byte) told[i];
-        }
-        bytes(x, bytes);
-    }
-
-    private static int coast(DrizzleVote x, String text) {
-        tape(x, text);
-        return x.coast();
-    }
-
-    private static int law(DrizzleVote x, String text) {
-        tape(x, text);
-        return x.law();
-    }
-
-    private static DrizzleVote council(String text) {
-        DrizzleVote x = new DrizzleVote();
-        // more lines than one text may have are told in several
-        for (String one : text.split("\\|", -1)) {
-            coast(x, one);
-        }
-        return x;
-    }
-
-    private static DrizzleVote council(String text, String law) {
-        DrizzleVote x = council(text);
-        law(x, law);
-        return x;
+    private static void dueThrow(Class<?> want, Asked call) {
+        dueThrow(want, null, x -> call.run());
     }
 
     private static void coastFault(String text, int at) {
@@ -108,26 +27,8 @@ public final class PromisesTest {
         fault(new DrizzleVote(), false, text, at);
     }
 
-    private static void fault(DrizzleVote x, boolean coast, String text, int at) {
-        boolean thrown = false;
-        tape(x, text);
-        try {
-            int n = coast ? x.coast() : x.law();
-        } catch (IllegalArgumentException e) {
-            thrown = true;
-        }
-        if (thrown != (at >= 0) || x.fault() != at) {
-            wrong++;
-            System.out.println("promise " + promise + ": fault of '" + text + "' is " + x.fault() + ", due is " + at);
-        }
-    }
-
-    private static String times(int n, String part) {
-        return part.repeat(n - 1) + part.substring(0, part.length() - 1);
-    }
-
     private static void part1() {
-        promise = 1;
+        promise(1);
         DrizzleVote x = new DrizzleVote();
         int[] due = {0, 0, 0, -1, 1, 0, 0, 1, 3, 3, 0, 0, 0, 0, 0};
         for (int i = 0; i < due.length; i++) {
@@ -140,7 +41,7 @@ public final class PromisesTest {
         due(x.feed(0, 0, 0, 0, 0), 20);
         due(DrizzleVote.NONE, -1);
 
-        promise = 2;
+        promise(2);
         x = new DrizzleVote();
         for (int i = 1; i <= 20; i++) {
             due(x.feed(0x20202020, 0x20202020, 0x20202020, 0x20202020, 0x20202020), 20 * i);
@@ -160,7 +61,7 @@ public final class PromisesTest {
         dueThrow(ARGUMENT, x::law);
         due(x.fault(), 0);
 
-        promise = 3;
+        promise(3);
         x = new DrizzleVote();
         due(x.end(0), true);
         due(x.end(1), false);
@@ -175,7 +76,7 @@ public final class PromisesTest {
     }
 
     private static void part4() {
-        promise = 4;
+        promise(4);
         DrizzleVote x = new DrizzleVote();
         due(coast(x, "   "), 1);
         due(coast(x, " member  at 3seats 020hat in ; now fog;hour 11;day 999; quorum 8;aye 20;wet 0"), 2);
@@ -212,7 +113,7 @@ public final class PromisesTest {
         due(x.count(6), 12);
         due(x.count(2), 12);
         due(x.end(1), false);
-        DrizzleVote y = council(times(14, "day 3;"));
+        DrizzleVote y = council(times(14, "day 3"));
         due(y.count(6), 3);
         coastFaults();
     }
@@ -224,7 +125,7 @@ public final class PromisesTest {
         due(x.count(9), 20);
         due(x.count(7), 0);
         due(x.member(0, 1), 0);
-        coast(x, "hour 0;day 0;paper 11 0".replace(";paper 11 0", ""));
+        coast(x, "hour 0;day 0");
         due(x.count(5), 0);
         due(x.count(6), 0);
         coast(x, "motion of 0 takes 9 worth 99;motion of 0 takes 1 worth 0;paper 11 0;paper 11 1;place 0 exposed 9");
@@ -262,10 +163,10 @@ public final class PromisesTest {
         coastFault(";", 0);
         coastFault("now fog;", 8);
         coastFault("now fog;;", 8);
-        coastFault(times(14, "day 3;") + ";", 84);
-        coastFault(times(14, "day 3;") + "; day 3", 85);
-        coastFault(times(7, "member at 1;") + ";now fog;member at 1", 92);
-        coastFault("member at 1;" + times(8, "motion of 0 takes 1 worth 1;") + ";motion of 0 takes 1 worth 1", 236);
+        coastFault(times(14, "day 3") + ";", 84);
+        coastFault(times(14, "day 3") + "; day 3", 85);
+        coastFault(times(7, "member at 1") + ";now fog;member at 1", 92);
+        coastFault("member at 1;" + times(8, "motion of 0 takes 1 worth 1") + ";motion of 0 takes 1 worth 1", 236);
         coastFault("member in 1", 7);
         coastFault("member at", 9);
         coastFault("member at 0001", 10);
@@ -305,7 +206,7 @@ public final class PromisesTest {
     }
 
     private static void part5() {
-        promise = 5;
+        promise(5);
         DrizzleVote x = council("member at 0 seats 2;member at 1 hat;motion of 1 takes 1 worth 7;now drizzle");
         due(x.felt(1, 2, 0), 0);
         due(law(x, ""), 0);
@@ -321,7 +222,7 @@ public final class PromisesTest {
         due(x.count(3), 4);
         due(x.count(14), 1);
         due(x.end(1), false);
-        due(law(x, times(12, "feel 1;")), 12);
+        due(law(x, times(12, "feel 1")), 12);
         due(x.count(14), 0);
         due(x.felt(0, 0, -1), 12);
         due(law(x, "feel 20;feel 20"), 2);
@@ -342,8 +243,7 @@ public final class PromisesTest {
             + "motion of 1 takes 1 worth 9;place 3 exposed 6;hour 5", "feel 1 if " + condition);
         int felt = x.felt(1, 3, 1);
         if (felt != (want ? 1 : 0)) {
-            wrong++;
-            System.out.println("promise 5: '" + condition + "' must be " + want);
+            fails("'" + condition + "' must be " + want);
         }
     }
 
@@ -367,7 +267,7 @@ public final class PromisesTest {
         holds("not hat or wet", true);
         holds("not (hat or wet)", false);
         holds("not not not not not not hat", true);
-        holds("(((((( hat and not(1)2)))))) ".replace("and not(1)2", ""), true);
+        holds("(((((( hat )))))) ", true);
     }
 
     private static void lawFaults() {
@@ -410,12 +310,12 @@ public final class PromisesTest {
         lawFault("lapse if (not(not(not(hat))))", 21);
         lawFault("lapse if (not(not(not hat)))", -1);
         lawFault("lapse if (not hat) and (not hat) and not not not not (not hat)", -1);
-        lawFault(times(12, "lapse;") + ";", 72);
-        lawFault(times(12, "lapse;") + ";lapse", 72);
+        lawFault(times(12, "lapse") + ";", 72);
+        lawFault(times(12, "lapse") + ";lapse", 72);
     }
 
     private static void part6() {
-        promise = 6;
+        promise(6);
         DrizzleVote x = new DrizzleVote();
         due(x.fault(), -1);
         fault(x, true, "now rain", 4);
@@ -429,7 +329,7 @@ public final class PromisesTest {
         due(x.fault(), 10);
         fault(x, false, "lapse", -1);
 
-        promise = 7;
+        promise(7);
         DrizzleVote y = council(THREE);
         due(y.member(0, 0), 1);
         due(y.member(0, 1), 3);
@@ -451,7 +351,7 @@ public final class PromisesTest {
         dueThrow(NO_SUCH, () -> y.member(0, 6));
         dueThrow(NO_SUCH, () -> y.member(0, -1));
 
-        promise = 8;
+        promise(8);
         due(y.motion(1, 0), 1);
         due(y.motion(1, 1), 3);
         due(y.motion(1, 2), 12);
@@ -468,7 +368,7 @@ public final class PromisesTest {
     }
 
     private static void part9() {
-        promise = 9;
+        promise(9);
         DrizzleVote x = council("sky fog 01279;place 7 exposed 0");
         due(x.follows(3, 0), 0);
         due(x.follows(3, 2), 2);
@@ -479,13 +379,13 @@ public final class PromisesTest {
         dueThrow(INDEX, () -> x.follows(-1, 0));
         dueThrow(INDEX, () -> x.follows(0, -1));
 
-        promise = 10;
+        promise(10);
         due(x.exposed(7), 0);
         due(x.exposed(6), 5);
         dueThrow(INDEX, () -> x.exposed(8));
         dueThrow(INDEX, () -> x.exposed(-1));
 
-        promise = 11;
+        promise(11);
         DrizzleVote y = council(THREE);
         due(y.paper(0), 0);
         due(y.paper(1), -1);
@@ -494,7 +394,7 @@ public final class PromisesTest {
         dueThrow(INDEX, () -> y.paper(12));
         dueThrow(INDEX, () -> y.paper(-1));
 
-        promise = 12;
+        promise(12);
         due(y.felt(0, 2, 0), 4);
         due(y.felt(0, 2, -1), 4);
         due(y.felt(0, 4, 0), 0);
@@ -515,7 +415,7 @@ public final class PromisesTest {
     }
 
     private static void part13() {
-        promise = 13;
+        promise(13);
         DrizzleVote x = council(THREE);
         due(x.goes(0, 0, 0), 3);
         due(x.goes(0, 1, 0), 1);
@@ -559,7 +459,7 @@ public final class PromisesTest {
         due(x.goes(0, 0, 5), 3);
         due(x.goes(0, 1, 5), 1);
 
-        promise = 14;
+        promise(14);
         DrizzleVote y = council(THREE + "|paper 1 1;paper 2 2");
         due(y.hours(2), 1);
         due(y.count(4), 3);
@@ -588,7 +488,7 @@ public final class PromisesTest {
     }
 
     private static void part15() {
-        promise = 15;
+        promise(15);
         DrizzleVote x = council(THREE);
         due(x.table(1, 0), 0);
         due(x.motion(0, 5), -1);
@@ -604,7 +504,7 @@ public final class PromisesTest {
         dueThrow(INDEX, () -> x.table(-1, 0));
         dueThrow(INDEX, () -> x.table(1, -1));
 
-        promise = 16;
+        promise(16);
         due(x.clear(0), 0);
         due(x.motion(0, 5), -1);
         dueThrow(STATE, () -> x.clear(0));
@@ -612,7 +512,7 @@ public final class PromisesTest {
         dueThrow(INDEX, () -> x.clear(12));
         dueThrow(INDEX, () -> x.clear(-1));
 
-        promise = 17;
+        promise(17);
         due(x.hat(0, true), true);
         due(x.hat(0, true), false);
         due(x.member(0, 2), 1);
@@ -622,7 +522,7 @@ public final class PromisesTest {
         dueThrow(INDEX, () -> x.hat(3, true));
         dueThrow(INDEX, () -> x.hat(-1, true));
 
-        promise = 18;
+        promise(18);
         due(x.out(2, true), true);
         due(x.out(2, true), false);
         due(x.count(12), 7);
@@ -632,7 +532,7 @@ public final class PromisesTest {
         dueThrow(INDEX, () -> x.out(3, true));
         dueThrow(INDEX, () -> x.out(-1, true));
 
-        promise = 19;
+        promise(19);
         due(x.walk(2, 0), 5);
         due(x.walk(2, 7), 0);
         due(x.member(2, 0), 7);
@@ -640,7 +540,7 @@ public final class PromisesTest {
         dueThrow(INDEX, () -> x.walk(2, -1));
         dueThrow(INDEX, () -> x.walk(3, 0));
 
-        promise = 20;
+        promise(20);
         due(x.mind(2, 1), false);
         due(x.motion(1, 3), 2);
         due(x.mind(2, 1), true);
@@ -651,7 +551,7 @@ public final class PromisesTest {
     }
 
     private static void part21() {
-        promise = 21;
+        promise(21);
         DrizzleVote x = council(THREE + "|paper 1 1;paper 2 2");
         due(x.seat(1, 20), 2);
         due(x.seat(1, 0), 20);
@@ -661,7 +561,7 @@ public final class PromisesTest {
         dueThrow(INDEX, () -> x.seat(3, 21));
         x.seat(1, 2);
 
-        promise = 22;
+        promise(22);
         dueThrow(STATE, () -> x.renew(0));
         x.hours(3);
         dueThrow(STATE, () -> x.renew(0));
@@ -672,7 +572,7 @@ public final class PromisesTest {
         dueThrow(INDEX, () -> x.renew(3));
         dueThrow(INDEX, () -> x.renew(-1));
 
-        promise = 23;
+        promise(23);
         DrizzleVote y = council("sky dry 02211;sky drizzle 01000;sky fog 01000;sky downpour 01000");
         due(y.chance(1, 0), 10000);
         due(y.chance(2, 0), 0);
@@ -687,7 +587,7 @@ public final class PromisesTest {
         dueThrow(INDEX, () -> y.chance(5, 25));
         dueThrow(INDEX, () -> y.chance(-1, 0));
 
-        promise = 24;
+        promise(24);
         DrizzleVote z = council("member at 0;motion of 0 takes 1 worth 1;hour 10", "lapse if sky<1 or hour<1 and sky>2");
         due(z.carries(0, 1), 8000);
         due(z.carries(0, 2), 8000);
@@ -702,8 +602,8 @@ public final class PromisesTest {
         DrizzleVote s = council("sky dry 09001;sky downpour 09001;member at 0;motion of 0 takes 1 worth 1", "lapse if sky<4");
         due(s.carries(0, 2), s.chance(4, 2));
 
-        promise = 25;
-        DrizzleVote w = council(ROUND + "member at 0;motion of 0 takes 1 worth 1", "lapse if sky<4 and hour<4");
+        promise(25);
+        DrizzleVote w = council(ROUND + ";member at 0;motion of 0 takes 1 worth 1", "lapse if sky<4 and hour<4");
         due(w.soonest(0, 1), 5);
         due(w.soonest(0, 10000), 5);
         due(w.soonest(0, 0), 1);
@@ -729,7 +629,7 @@ public final class PromisesTest {
         dueThrow(ARGUMENT, () -> z.soonest(0, -1));
         dueThrow(INDEX, () -> z.soonest(1, -1));
 
-        promise = 26;
+        promise(26);
         due(w.when(0), 5);
         due(z.when(0), 1);
         law(z, "lapse if hour>9 and sky<1 or hour<1 or hour>0 and hour<10 and sky<4");
@@ -741,7 +641,7 @@ public final class PromisesTest {
     }
 
     private static void part27() {
-        promise = 27;
+        promise(27);
         DrizzleVote x = council("member at 0;motion of 0 takes 1 worth 1", "lapse if sky>2 and sky<4 and hour<1");
         due(x.worst(), 3);
         x.hours(1);
@@ -759,7 +659,7 @@ public final class PromisesTest {
         y.mind(0, 1);
         due(y.worst(), 0);
 
-        promise = 28;
+        promise(28);
         DrizzleVote z = council(THREE + ";paper 1 1");
         due(z.best(-1), 14);
         due(z.best(9), 0);
@@ -792,7 +692,7 @@ public final class PromisesTest {
         due(w.best(-1), 8);
         due(w.best(11), 1);
 
-        promise = 29;
+        promise(29);
         DrizzleVote v = council(THREE);
         due(v.shower(0, false), 0);
         due(v.shower(1, false), 4);
@@ -811,7 +711,7 @@ public final class PromisesTest {
         u.hours(1);
         due(u.shower(9, false), 2);
 
-        promise = 30;
+        promise(30);
         due(v.haste(0), 0);
         due(v.haste(1), 1);
         due(v.haste(2), 2);
@@ -829,7 +729,7 @@ public final class PromisesTest {
     }
 
     private static void part31() {
-        promise = 31;
+        promise(31);
         DrizzleVote x = council(THREE);
         due(x.cuffs(false), 31);
         due(x.cuffs(true), 5);
@@ -858,7 +758,7 @@ public final class PromisesTest {
         due(z.cuffs(true), 0);
         mostRows();
 
-        promise = 32;
+        promise(32);
         due(x.likely(), 0);
         rows(x, 0, 0, 1);
         due(x.likely(), 2);
@@ -871,7 +771,7 @@ public final class PromisesTest {
         rows(w, 0, 0, 0);
         due(w.likely(), 0);
 
-        promise = 33;
+        promise(33);
         rows(x, 0, 0, 1);
         due(x.ago(4), 1);
         rows(x, 0, 0, 1);
@@ -888,7 +788,7 @@ public final class PromisesTest {
         due(x.end(1), false);
         wrongRows(x);
 
-        promise = 34;
+        promise(34);
         due(x.ask(), 0);
         rows(x, 0, 0, 1);
         due(x.ask(), -1);
@@ -941,14 +841,14 @@ public final class PromisesTest {
     }
 
     private static void part35() {
-        promise = 35;
+        promise(35);
         due(new DrizzleVote().windows(), 0);
         due(council(THREE).windows(), 5);
         due(council("member at 0;member at 1;member at 2").windows(), 2);
         due(council("member at 0;member at 2;member at 4;member at 6;member at 1;member at 3;member at 5").windows(), 4 + 8 + 16);
         due(council("member at 7;member at 7").windows(), 1);
 
-        promise = 36;
+        promise(36);
         DrizzleVote x = council(THREE);
         due(x.posts(-1), 30);
         due(x.posts(0), 0);
@@ -966,7 +866,7 @@ public final class PromisesTest {
         due(first.posts(-1), 12);
         due(first.posts(0), 0);
 
-        promise = 37;
+        promise(37);
         DrizzleVote y = council(THREE);
         due(y.wins(3), true);
         due(y.wins(1), false);
@@ -980,7 +880,7 @@ public final class PromisesTest {
         y.seat(1, 0);
         due(y.wins(1), false);
 
-        promise = 38;
+        promise(38);
         DrizzleVote z = council(THREE);
         due(z.swings(0), 2);
         due(z.swings(1), 2);
@@ -993,7 +893,7 @@ public final class PromisesTest {
         dueThrow(INDEX, () -> z.swings(8));
         dueThrow(INDEX, () -> z.swings(-1));
 
-        promise = 39;
+        promise(39);
         due(z.power(0), 100);
         due(z.power(7), 0);
         z.seat(0, 3);
@@ -1004,7 +904,7 @@ public final class PromisesTest {
         DrizzleVote w = council("wet 0;member at 1 seats 0");
         due(w.power(7), 0);
 
-        promise = 40;
+        promise(40);
         due(z.minimal(), 3);
         z.seat(0, 9);
         due(z.minimal(), 1);
@@ -1019,7 +919,7 @@ public final class PromisesTest {
         DrizzleVote v = council("wet 2;member at 1 seats 0;member at 1 seats 1");
         due(v.minimal(), 1);
 
-        promise = 41;
+        promise(41);
         due(z.leader(), 0);
         due(v.leader(), 7);
         due(w.leader(), -1);
@@ -1027,7 +927,7 @@ public final class PromisesTest {
     }
 
     private static void part42() {
-        promise = 42;
+        promise(42);
         DrizzleVote x = council(THREE);
         due(x.minds(1), 1);
         due(x.minds(0), 0);
@@ -1049,7 +949,7 @@ public final class PromisesTest {
         y.seat(2, 9);
         due(y.minds(0), 4);
 
-        promise = 43;
+        promise(43);
         DrizzleVote z = council(THREE);
         due(z.bargain(0, 1), 1);
         due(z.bargain(1, 0), 8);
@@ -1077,7 +977,7 @@ public final class PromisesTest {
         due(w.motion(1, 4), 2);
         due(w.bargain(0, 1), -1);
 
-        promise = 44;
+        promise(44);
         due(z.like(0, 1), 1);
         due(z.like(1, 0), 1);
         due(z.like(0, 2), 0);
@@ -1088,7 +988,7 @@ public final class PromisesTest {
         dueThrow(INDEX, () -> z.like(-1, 0));
         dueThrow(INDEX, () -> z.like(3, 0));
 
-        promise = 45;
+        promise(45);
         due(z.foes(), 2);
         z.mind(2, 0);
         due(z.foes(), 1);
@@ -1096,7 +996,7 @@ public final class PromisesTest {
         due(council("member at 0;member at 0").foes(), 1);
         due(council("member at 0;member at 0;member at 0;motion of 0 takes 1 worth 1 for 110;motion of 0 takes 1 worth 1 for 010").foes(), 10);
 
-        promise = 46;
+        promise(46);
         DrizzleVote v = new DrizzleVote();
         due(v.dry(0), 10000);
         due(v.dry(1), 8000);
@@ -1108,7 +1008,7 @@ public final class PromisesTest {
         due(v.dry(0), 0);
         due(v.dry(1), 8000);
 
-        promise = 47;
+        promise(47);
         DrizzleVote u = council("sky dry 09100;sky sun 09100");
         due(u.drought(0), 10000);
         due(u.drought(1), u.dry(12));
@@ -1120,7 +1020,7 @@ public final class PromisesTest {
     }
 
     private static void part48() {
-        promise = 48;
+        promise(48);
         DrizzleVote x = council(THREE);
         due(x.quorate(), true);
         coast(x, "quorum 2");
@@ -1130,7 +1030,7 @@ public final class PromisesTest {
         due(new DrizzleVote().quorate(), false);
         due(council("quorum 0").quorate(), true);
 
-        promise = 49;
+        promise(49);
         due(new DrizzleVote().enough(), 4);
         due(x.enough(), 1);
         due(council("sky dry 01000").enough(), -1);
@@ -1140,7 +1040,7 @@ public final class PromisesTest {
         DrizzleVote late = council("sky dry 00010;sky fog 09100;sky sun 10000;sky downpour 10000");
         due(late.enough(), firstBelow(late));
 
-        promise = 50;
+        promise(50);
         DrizzleVote y = council(THREE + ";paper 1 1");
         due(y.rests(0), 3);
         // lost if all stay, carried if the opposition goes in
@@ -1162,7 +1062,7 @@ public final class PromisesTest {
         coast(z, "now sun");
         due(z.rests(0), 4);
 
-        promise = 51;
+        promise(51);
         DrizzleVote w = council(THREE);
         due(w.tabled(), 1);
         w.table(2, 5);
@@ -1170,7 +1070,7 @@ public final class PromisesTest {
         w.clear(0);
         due(w.tabled(), 4);
 
-        promise = 52;
+        promise(52);
         due(w.soaked(), 0);
         w.hours(1);
         due(w.count(4), 2);
@@ -1182,12 +1082,12 @@ public final class PromisesTest {
         law(w, "feel 9 if mover");
         due(w.soaked(), 6);
 
-        promise = 53;
+        promise(53);
         due(w.twins(), 0);
         due(council("member at 1;member at 1;member at 1;member at 2;member at 1 seats 2").twins(), 3);
-        due(council("member at 1;member at 1 in hat".replace(" in hat", " hat in")).twins(), 1);
+        due(council("member at 1;member at 1 hat in").twins(), 1);
 
-        promise = 54;
+        promise(54);
         due(council(THREE).richest(), 1);
         due(council("member at 0;motion of 0 takes 1 worth 0;motion of 0 takes 1 worth 0").richest(), 0);
         DrizzleVote v = council(THREE);
@@ -1198,7 +1098,7 @@ public final class PromisesTest {
     }
 
     private static void part55() {
-        promise = 55;
+        promise(55);
         DrizzleVote x = council(THREE + "|paper 1 1;paper 4 2");
         due(x.trial(12, true), 3);
         due(x.trial(12, false), 5);
@@ -1213,7 +1113,7 @@ public final class PromisesTest {
         x.hours(1);
         due(x.trial(0, false), 1);
 
-        promise = 56;
+        promise(56);
         due(x.span(0, true), 10);
         due(x.span(4, true), 14);
         due(x.span(4, false), 14);
@@ -1234,7 +1134,7 @@ public final class PromisesTest {
         due(y.seed(1), 77);
         due(y.count(5), 0);
 
-        promise = 57;
+        promise(57);
         due(x.led(0, false), 1);
         due(x.led(0, true), 2);
         due(x.led(1, false), 0);
@@ -1247,7 +1147,7 @@ public final class PromisesTest {
         dueThrow(INDEX, () -> x.led(3, true));
         dueThrow(INDEX, () -> x.led(-1, false));
 
-        promise = 58;
+        promise(58);
         due(x.log(0, 0), 1);
         due(x.log(0, 1), 1);
         due(x.log(0, 2), 1);
@@ -1297,13 +1197,13 @@ public final class PromisesTest {
     }
 
     private static void part59() {
-        promise = 59;
+        promise(59);
         DrizzleVote x = council(THREE);
         due(x.seed(-7), 1);
         due(x.seed(3), -7);
         due(x.count(14), 0);
 
-        promise = 60;
+        promise(60);
         due(x.undo(), false);
         x.hours(5);
         x.seed(9);
@@ -1348,7 +1248,7 @@ public final class PromisesTest {
         law(x, "lapse");
         due(x.undo(), false);
 
-        promise = 61;
+        promise(61);
         x.seat(0, 4);
         x.image();
         due(x.count(14), 1);
@@ -1361,7 +1261,7 @@ public final class PromisesTest {
         x.back();
         due(x.member(0, 1), 5);
 
-        promise = 62;
+        promise(62);
         due(new DrizzleVote().back(), false);
         DrizzleVote y = council(THREE);
         y.seat(0, 1);
@@ -1404,7 +1304,7 @@ public final class PromisesTest {
         due(w.log(0, 4), 2);
         due(w.paper(0), 1);
 
-        promise = 63;
+        promise(63);
         DrizzleVote z = council(THREE + ";paper 1 1", "feel 1 if hat;lapse if sky<1");
         z.hours(2);
         int[] due = {3, 3, 1, 2, 3, 2, 0, 1, 3, 3, 4, 1, 3, 2, 1};
@@ -1437,10 +1337,6 @@ public final class PromisesTest {
         part48();
         part55();
         part59();
-        if (wrong > 0) {
-            System.out.println(wrong + " answers are not as due");
-            System.exit(1);
-        }
-        System.out.println("all promises are as due");
+        ends("PromisesTest");
     }
 }
