@@ -291,6 +291,23 @@ public final class ActEdgesTest extends Kit {
         }
         due(x.count(6), 3000);
         due(x.count(5), 11);
+        sentence("AN HOUR: DAY is 9999 at most (only more calls than the 512 that are promised come so far)");
+        x = council("day 999;hour 11");
+        for (int i = 0; i < 1799; i++) {
+            x.hours(60);
+        }
+        x.hours(48);
+        due(x.count(6), 9998);
+        x.hours(1);
+        due(x.count(6), 9999);
+        x.hours(11);
+        due(x.count(6), 9999);
+        due(x.count(5), 11);
+        x.hours(1);
+        due(x.count(6), 9999);
+        due(x.count(5), 0);
+        x.hours(60);
+        due(x.count(6), 9999);
         sentence("Promise 14: how many MOTIONS were carried in these");
         x = council(CROWD + "|sky dry 01000;paper 0 0;paper 1 1;paper 2 2;paper 3 3;paper 4 4;paper 5 5;paper 10 6;paper 11 7");
         for (int member = 0; member < 7; member++) {
@@ -470,6 +487,13 @@ public final class ActEdgesTest extends Kit {
         sentence("Promise 58: NoSuchElementException: another what, without such a row too");
         dueThrow(NO_SUCH, w, y -> y.log(9, 5));
         dueThrow(NO_SUCH, w, y -> y.log(-1, -1));
+        sentence("LED: of a MOTION, in whatever HOUR it came up");
+        x = council("member at 0;motion of 0 takes 1 worth 9;motion of 0 takes 1 worth 1;paper 1 0;paper 7 1");
+        x.hours(12);
+        due(x.led(0, false), 1);
+        due(x.led(1, false), 1);
+        due(x.led(0, true), x.log(1, 3));
+        due(x.led(1, true), x.log(0, 3));
         sentence("LED: the latest of a MOTION, not the first");
         x = council(ROUND + ";member at 0;motion of 0 takes 1 worth 9;paper 0 0;now fog;quorum 8");
         x.hours(1);

@@ -46,6 +46,13 @@ public final class ChanceEdgesTest extends Kit {
         due(x.chance(0, 1), 1428);
         due(x.chance(3, 1), 4287);
         due(x.chance(4, 1), 4285);
+        sentence("CHANCE: also of 1 nothing is lost");
+        x = council("sky dry 91000;sky sun 10000");
+        int[] left = {10000, 1000, 100, 10, 1, 0, 0};
+        for (int n = 0; n < left.length; n++) {
+            due(x.chance(1, n), left[n]);
+            due(x.chance(0, n), 10000 - left[n]);
+        }
         sentence("CHANCE: each SKY gives by itself what it has over");
         x = council("sky dry 11100;sky sun 00111;sky drizzle 00011");
         // dry gives 3334, 3333, 3333; then sun 1111 twice and 1112, dry as much, drizzle 1666 and 1667
@@ -75,6 +82,10 @@ public final class ChanceEdgesTest extends Kit {
         }
         x = council("sky dry 19000;sky sun 10000;sky drizzle 00100;sky fog 00010;sky downpour 00001;" + ONE, "lapse if sky>0");
         due(x.carries(0, 1), 1000);
+        x = council("sky dry 91000;sky sun 10000;" + ONE, "lapse if sky<1");
+        due(x.carries(0, 4), 1);
+        due(x.carries(0, 5), 0);
+        due(x.soonest(0, 1), 1);
         x = council("sky dry 00119;sky downpour 00009;" + ONE, "lapse if sky<2 or sky>2");
         due(x.carries(0, 1), 909);
         sentence("CARRIES: a SKY without a CHANCE does not count");
@@ -181,7 +192,13 @@ public final class ChanceEdgesTest extends Kit {
         x.hours(1);
         due(x.count(10), 0);
         due(x.worst(), 0);
+        sentence("WORST: SKIES are 0 to 4");
+        due(council(two, "lapse if sky>4").worst(), 0);
         sentence("WORST: of all 8 MOTIONS");
+        x = council("member at 0|" + times(8, "motion of 0 takes 1 worth 1"), "lapse if sky<0");
+        due(x.worst(), 0);
+        law(x, "lapse if sky>2 and sky<4 and motion>6");
+        due(x.worst(), 3);
         x = council(CROWD, "lapse if sky>0 and sky<2 and motion>6");
         x.seat(6, 20);
         due(x.worst(), 1);
@@ -195,6 +212,13 @@ public final class ChanceEdgesTest extends Kit {
         due(x.best(NONE), 4);
         x = council("member at 0;motion of 0 takes 1 worth 99");
         due(x.best(NONE), 79);
+        sentence("DAY'S best: 9999 by 10000, rounded down");
+        x = council("member at 0;motion of 0 takes 1 worth 3;hour 11;sky dry 01110", "lapse if sky<3");
+        due(x.carries(0, 1), 3333);
+        due(x.best(NONE), 0);
+        law(x, "lapse if sky>1");
+        due(x.carries(0, 1), 3334);
+        due(x.best(NONE), 1);
         sentence("DAY'S best: nothing, if no MOTION waits");
         due(new DrizzleVote().best(NONE), 0);
         for (int hour = 0; hour < 12; hour++) {
@@ -378,11 +402,8 @@ public final class ChanceEdgesTest extends Kit {
     private static void dry() {
         sentence("DRY of N HOURS (0 to 12): behind each HOUR what SKY 2 has is taken away: what all others have together then");
         DrizzleVote x = new DrizzleVote();
-        int due = 10000;
         for (int n = 0; n <= 12; n++) {
-            due(x.dry(n), due);
-            // each of four skies gives a fifth part, and what is over stays with sun
-            due = dryAfter(n);
+            due(x.dry(n), dryAfter(n));
         }
         x = council("sky dry 00100");
         due(x.dry(0), 10000);
@@ -420,17 +441,16 @@ public final class ChanceEdgesTest extends Kit {
         due(x.dry(1), 5000);
         due(x.enough(), 2);
         sentence("ENOUGH: 4999 are below 5000");
-        x = council("sky dry 10100;sky sun 30100");
-        due(x.dry(1), 5000);
-        x = council("sky dry 70700;sky sun 99100");
-        due(x.enough(), 2);
+        x = council("sky dry 12300");
+        due(x.dry(1), 4999);
+        due(x.enough(), 1);
         lastHours();
     }
 
     /** Of four skies of which each gives a fifth part, rounded down, to each, and to sun what is over. */
     private static int dryAfter(int hours) {
         int[] has = {0, 10000, 0, 0};
-        for (int n = 0; n <= hours; n++) {
+        for (int n = 0; n < hours; n++) {
             int[] then = new int[4];
             for (int from = 0; from < 4; from++) {
                 for (int to = 0; to < 4; to++) {
@@ -445,29 +465,16 @@ public final class ChanceEdgesTest extends Kit {
 
     private static void lastHours() {
         sentence("ENOUGH: N is 12 at most");
-        // a way of ten hours without drizzle, and one more in which most of it comes
-        DrizzleVote x = council("sky dry 99100;sky sun 99100;now dry");
-        due(x.dry(12) < 5999 && x.dry(12) > 5000, true);
-        due(x.enough(), NONE);
-        int[][] found = new int[13][];
-        for (int first = 0; first <= 9; first++) {
-            for (int second = 0; second <= 9; second++) {
-                for (int third = 1; third <= 2; third++) {
-                    DrizzleVote y = council("sky dry " + first + second + "0" + third + "0;sky sun 09190;sky fog 91909");
-                    int n = 0;
-                    while (n <= 12 && y.dry(n) >= 5000) {
-                        n++;
-                    }
-                    due(y.enough(), n > 12 ? NONE : n);
-                    if (n <= 12) {
-                        found[n] = new int[] {first, second, third};
-                    }
-                }
-            }
-        }
-        due(found[12] != null, true);
-        due(found[11] != null, true);
+        DrizzleVote x = council("sky dry 77100;sky sun 77100");
+        due(x.enough(), 11);
+        x = council("sky dry 88100;sky sun 88100");
+        due(x.dry(11) >= 5000, true);
+        due(x.dry(12) < 5000, true);
+        due(x.enough(), 12);
         sentence("ENOUGH: none");
+        x = council("sky dry 99100;sky sun 99100");
+        due(x.dry(12) >= 5000, true);
+        due(x.enough(), NONE);
         due(council("sky dry 01000").enough(), NONE);
     }
 
@@ -511,6 +518,14 @@ public final class ChanceEdgesTest extends Kit {
         for (int seed = 0; seed <= 7; seed++) {
             spanOf(seed);
         }
+    }
+
+    private static String papers() {
+        StringBuilder b = new StringBuilder();
+        for (int motion = 0; motion < 8; motion++) {
+            b.append(motion > 0 ? ";" : "").append("paper ").append(motion).append(' ').append(motion);
+        }
+        return b.toString();
     }
 
     private static int drawOf(int seed) {

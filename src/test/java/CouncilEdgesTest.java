@@ -26,7 +26,9 @@ public final class CouncilEdgesTest extends Kit {
         due(at(0, 7, 6).windows(), 3);
         due(at(1, 7, 0).windows(), 3);
         sentence("WINDOWS: the fewest, of several the least as bits");
+        due(at(3, 3).windows(), 1);
         due(at(3, 3, 3).windows(), 1);
+        due(at(0, 2, 4, 6).windows(), 15);
         due(at(0, 1, 2, 3).windows(), 5);
         due(at(3, 2, 1, 0).windows(), 5);
         due(at(0, 3, 1, 4).windows(), 3);
@@ -164,6 +166,21 @@ public final class CouncilEdgesTest extends Kit {
         due(x.power(1), 100);
         due(x.leader(), 1);
         due(x.minimal(), 1);
+        sentence("MINIMAL, LEADER, SWINGS, POWER: of what is OUT by now");
+        due(seats("wet 2", 2, 1).minimal(), 3);
+        x = seats("wet 2", 2, 1);
+        x.out(0, false);
+        due(x.minimal(), 1);
+        x.out(0, true);
+        due(x.leader(), 0);
+        x.seat(1, 9);
+        due(x.leader(), 1);
+        x.seat(1, 1);
+        due(x.swings(1), 2);
+        x.seat(1, 0);
+        due(x.power(1), 0);
+        x.seat(1, 20);
+        due(x.wins(2), true);
         sentence("LEADER: 7: the drizzle");
         due(seats("wet 4", 2, 1).leader(), 7);
         due(seats("wet 1").leader(), 7);
@@ -237,6 +254,14 @@ public final class CouncilEdgesTest extends Kit {
         due(x.minds(7), 63);
         coast(x, "wet 4");
         due(x.minds(7), 31);
+        x = council(CROWD.replace("worth 8", "worth 8 for 0000000") + "|wet 6;aye 6");
+        due(x.minds(7), 127);
+        coast(x, "wet 5");
+        due(x.minds(7), 127);
+        coast(x, "wet 4");
+        due(x.minds(7), 63);
+        coast(x, "wet 7");
+        due(x.minds(7), NONE);
         sentence("MINDS of a MOTION that does not wait as well");
         due(world().minds(1), 0);
     }
@@ -266,12 +291,22 @@ public final class CouncilEdgesTest extends Kit {
         due(x.bargain(0, 1), 1);
         x.hours(1);
         due(x.bargain(0, 1), NONE);
+        law(x, "lapse if hour>0 and motion<1");
+        due(x.bargain(0, 1), NONE);
+        due(x.bargain(1, 0), NONE);
+        law(x, "lapse if motion>1");
+        due(x.bargain(0, 1), 1);
+        due(x.bargain(1, 0), 8);
         sentence("BARGAIN: and do not both GO 1 now");
         due(council(two + "motion of 0 takes 1 worth 1;motion of 1 takes 1 worth 1").bargain(0, 1), NONE);
         due(council("member at 0;member at 1;place 1 exposed 2;motion of 0 takes 1 worth 1;motion of 1 takes 1 worth 1;wet 1")
             .bargain(0, 1), 1);
         due(council("member at 0;member at 1;place 0 exposed 2;motion of 0 takes 1 worth 1;motion of 1 takes 1 worth 1;wet 1")
             .bargain(0, 1), 1);
+        due(council("member at 0;member at 1;place 1 exposed 2;motion of 1 takes 1 worth 1;motion of 0 takes 1 worth 1;wet 1")
+            .bargain(0, 1), 8);
+        due(council("member at 0;member at 1;place 0 exposed 2;motion of 1 takes 1 worth 1;motion of 0 takes 1 worth 1;wet 1")
+            .bargain(0, 1), 8);
         sentence("BARGAIN: two MOTIONS that wait");
         x = council("sky dry 01000;" + both + "wet 1;paper 0 0");
         x.hours(1);

@@ -1,3 +1,5 @@
+import java.util.ArrayList;
+import java.util.List;
 import java.util.NoSuchElementException;
 import java.util.Objects;
 
@@ -187,6 +189,22 @@ abstract class Kit {
         if (x.end(1)) {
             fails("the tape is not used up by '" + text + "'");
         }
+    }
+
+    /** Where each word of a text begins and ends. */
+    static List<int[]> wordsOf(String text) {
+        List<int[]> all = new ArrayList<>();
+        int begin = 0;
+        for (int i = 0; i <= text.length(); i++) {
+            boolean letter = i < text.length() && text.charAt(i) >= 'a' && text.charAt(i) <= 'z';
+            if (!letter) {
+                if (i > begin) {
+                    all.add(new int[] {begin, i});
+                }
+                begin = i + 1;
+            }
+        }
+        return all;
     }
 
     // ---- the state behind a call

@@ -18,6 +18,14 @@ public final class LawEdgesTest extends Kit {
         due(law(x, times(11, "feel 1")), 11);
         due(law(x, times(12, "feel 1")), 12);
         due(x.count(3), 12);
+        sentence("THE LAW: 12 LINES of one kind: all hold, and there is no lapse LINE");
+        DrizzleVote twelve = council("member at 0;motion of 0 takes 1 worth 1", times(12, "feel 1"));
+        due(twelve.felt(0, 1, NONE), 12);
+        due(twelve.goes(0, 0, 0), 3);
+        due(twelve.goes(0, 1, 0), 1);
+        law(twelve, times(11, "feel 1") + ";lapse if sky>0");
+        due(twelve.goes(0, 0, 0), 1);
+        due(twelve.goes(0, 1, 0), 3);
         sentence("THE LAW: the first wrong byte of a LINE too many: the first word");
         wrongLaw(times(12, "feel 1") + ";feel 1", 84);
         wrongLaw(times(12, "feel 1") + "; feel 21", 85);
@@ -148,6 +156,10 @@ public final class LawEdgesTest extends Kit {
     private static void wrongBytes() {
         sentence("THE LAW: the first wrong byte: the begin of the first thing that cannot stand there");
         wrongLaw("felt 1", 0);
+        wrongLaw("5", 0);
+        wrongLaw("5 if hat", 0);
+        wrongLaw("lapse;5", 6);
+        wrongLaw("lapse;5 if hat", 6);
         wrongLaw("member at 1", 0);
         wrongLaw(" feels 1", 1);
         wrongLaw("feel1if hat", NONE);
@@ -184,6 +196,18 @@ public final class LawEdgesTest extends Kit {
             wrongLaw("lapse" + c, 5);
             wrongLaw("lapse if" + c + "hat", 8);
         }
+        wrongLaw("feel :", 5);
+        wrongLaw("feel /", 5);
+        wrongLaw("lapse if :<1", 9);
+        sentence("THE LAW: the first wrong byte: a word that is none, for each word");
+        String[] words = {"feel 1", "dull 1", "lapse", "lapse if hat", "lapse if not hat", "lapse if wet", "lapse if mover",
+            "lapse if hat and wet", "lapse if hat or wet", "lapse if member<1", "lapse if exposed<1", "lapse if seats<1",
+            "lapse if sky<1", "lapse if hour<1", "lapse if motion<1", "lapse if worth<1", "lapse if 1<member",
+            "lapse if 1>exposed", "lapse if 1<1+seats", "lapse if 1+1>sky", "lapse if 1<hour", "lapse if 1<motion",
+            "lapse if 1<worth"};
+        for (String one : words) {
+            spoilt(one);
+        }
         sentence("THE LAW: the text's length, if more must come");
         String[] broken = {"feel", "dull", "lapse if", "lapse if not", "lapse if (", "lapse if (hat", "lapse if hat or",
             "lapse if hat and", "lapse if 1", "lapse if 1+", "lapse if 1+1", "lapse if 1<", "lapse if 1>1+",
@@ -195,6 +219,19 @@ public final class LawEdgesTest extends Kit {
         sentence("THE LAW: between all there may be blanks, or none");
         rightLaw("  feel  1  if  (  hat  or  1  +  sky  <  3  )  ;  lapse  ");
         rightLaw("feel1if(hat)or1+sky<3and(wet)or not(mover);lapse if not(hat)");
+    }
+
+    /** With any letter of a word changed, or one more behind it, the text is wrong at the word's begin. */
+    private static void spoilt(String text) {
+        rightLaw(text);
+        for (int[] one : wordsOf(text)) {
+            for (int i = one[0]; i < one[1]; i++) {
+                StringBuilder b = new StringBuilder(text);
+                b.setCharAt(i, text.charAt(i) == 'q' ? 'x' : 'q');
+                wrongLaw(b.toString(), one[0]);
+            }
+            wrongLaw(text.substring(0, one[1]) + "s" + text.substring(one[1]), one[0]);
+        }
     }
 
     /** Of member 1 (hat, 4 seats, at place 3 that is exposed 6), motion 1 (worth 9, moved by it), in hour 5. */

@@ -404,6 +404,20 @@ public final class TextEdgesTest extends Kit {
         wrongCoast("day 1:", 5);
         wrongCoast("day 1/", 5);
         wrongCoast("feel 1", 0);
+        wrongCoast("5", 0);
+        wrongCoast("5 1", 0);
+        wrongCoast("day 1;5", 6);
+        wrongCoast("day :", 4);
+        wrongCoast("day /", 4);
+        wrongCoast("sky sun :0000", 8);
+        wrongCoast("sky sun 0000:", 8);
+        sentence("THE COAST: the first wrong byte: a word that is none, for each word");
+        String[] lines = {"member at 1 seats 1 hat in", "motion of 0 takes 1 worth 1 for 1", "sky sun 11111", "sky dry 11111",
+            "now drizzle", "now fog", "now downpour", "now sun", "now dry", "place 1 exposed 1", "quorum 1", "aye 1", "wet 1",
+            "paper 1 0", "hour 1", "day 1"};
+        for (String one : lines) {
+            spoilt(one);
+        }
         sentence("THE COAST: the first wrong byte: blanks are 32 alone");
         for (char c : new char[] {0, 9, 10, 13, 31, 33, 127, 128, 160, 255}) {
             wrongCoast(c + "day 1", 0);
@@ -429,6 +443,22 @@ public final class TextEdgesTest extends Kit {
         rightCoast(new DrizzleVote(), " ".repeat(395) + "day 1");
         wrongCoast(" ".repeat(395) + "day 1".replace('1', 'x'), 399);
         wrongCoast(" ".repeat(396) + "day ", 400);
+    }
+
+    /** With any letter of a word changed, or one more behind it, the text is wrong at the word's begin. */
+    private static void spoilt(String line) {
+        String ahead = "member at 1;motion of 0 takes 1 worth 1;";
+        rightCoast(new DrizzleVote(), ahead + line);
+        for (int[] one : wordsOf(line)) {
+            for (int i = one[0]; i < one[1]; i++) {
+                StringBuilder b = new StringBuilder(line);
+                b.setCharAt(i, 'q');
+                if (line.charAt(i) != 'q') {
+                    wrongCoast(ahead + b, ahead.length() + one[0]);
+                }
+            }
+            wrongCoast(ahead + line.substring(0, one[1]) + "s" + line.substring(one[1]), ahead.length() + one[0]);
+        }
     }
 
     private static void nothingStays() {
