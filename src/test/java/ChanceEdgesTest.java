@@ -301,8 +301,7 @@ public final class ChanceEdgesTest extends Kit {
 
     private static void bestOfManyHours() {
         sentence("DAY'S best: each of 8 MOTIONS may have an HOUR of its own");
-        StringBuilder law = new StringBuilder("lapse if not (motion+hour>10 and motion+hour<12)");
-        DrizzleVote x = council(CROWD, law.toString());
+        DrizzleVote x = council(CROWD, "lapse if not (motion+hour>10 and motion+hour<12)");
         for (int member = 0; member < 7; member++) {
             x.seat(member, 0);
         }
@@ -518,6 +517,12 @@ public final class ChanceEdgesTest extends Kit {
         for (int seed = 0; seed <= 7; seed++) {
             spanOf(seed);
         }
+        sentence("SPAN: of 8 MOTIONS of WORTH 99, all carried");
+        x = council("member at 0|" + times(8, "motion of 0 takes 1 worth 99") + "|" + papers(), "lapse if sky<0");
+        due(x.span(8, true), 792);
+        due(x.span(8, false), 792);
+        due(x.span(7, true), 693);
+        due(x.span(7, false), 693);
     }
 
     private static String papers() {
